@@ -113,6 +113,24 @@ public final class DaysTest {
         Check.due("all AGES of nobody", z.again(true), 1);
     }
 
+    private static void hundredth() { // Promises 26, 27, 28: 100 DAYS, and no more
+        CribLine x = Check.of("person girl age 40;person girl age 5;governs 0 1", "calm if day < 99");
+        Check.due("CRADLE in 100", x.cradle(false, false), 100);
+        Check.due("who", x.cradle(false, true), 1);
+        Check.due("AHEAD by 100", x.ahead(1, 100, false), 4);
+        Check.law(x, "calm if day < 100");
+        Check.due("not in 101", x.cradle(false, false), -1);
+        Check.law(x, "calm if day > 0 and day < 99;no 60 if day > 98;no 28 if day > 98");
+        Check.family(x, "ripe 0");
+        Check.due("AGAIN in 100", x.again(false), 100);
+        Check.law(x, "calm if day > 0 and day < 100;no 60 if day > 98;no 28 if day > 98");
+        Check.due("not in 101", x.again(false), -1);
+        CribLine y = Check.of("person girl age 40;person girl age 0;governs 0 1", "calm if day < 99");
+        Check.due("OVER in 100", y.over(1), 100);
+        Check.law(y, "calm if day < 100");
+        Check.due("not in 101", y.over(1), -1);
+    }
+
     private static void mild() { // Promise 40
         CribLine x = Check.of("person girl age 40;person girl age 30;governs 0 1");
         Check.due("no DAY", x.mild(0), 20);
@@ -152,6 +170,7 @@ public final class DaysTest {
         trials();
         ahead();
         cradles();
+        hundredth();
         mild();
         odds();
         Check.close("DaysTest");

@@ -78,7 +78,9 @@ public final class ModelTest {
         for (int i = 0; i < 12; i++) {
             int one = below(n);
             int two = below(n);
-            if (one != two) b.append(";governs ").append(one).append(" ").append(two);
+            if (one == two) continue;
+            boolean wed = i < 3 && m.s.one(one).sort != m.s.one(two).sort && !m.s.related(one, two) && b.indexOf("wed") < 0;
+            b.append(wed ? ";wed " : ";governs ").append(one).append(" ").append(two);
         }
         return b.toString();
     }

@@ -174,8 +174,43 @@ public final class TextTest {
         return x.weighs(who, whom, yes);
     }
 
+    // Whatever text a LINE's text goes on from: it is right or wrong by its end alone.
+    private static void cut() { // Promises 4, 5, 6
+        String people = "person girl age 1;person boy age 2;";
+        String[] family = {"person", "person boy", "person boy age", "person boy age 1 of", "person boy age 1 wants", "person boy age 1 stern",
+            "person boy age 1 permits", "governs", "governs 0", "wed", "wed 0", "round", "ripe", "step", "day", "step 1;", "step 1 ;  "};
+        for (String line : family) {
+            Check.wrongFamily(new CribLine(), people + line, people.length() + line.length());
+        }
+        String[] law = {"no", "yes", "no 1 if", "calm if", "calm if not", "calm if (", "calm if (wed", "calm if (wed or", "calm if (wed and", "calm if wed or",
+            "calm if wed and", "calm if age", "calm if age +", "calm if age <", "calm if age > 1 +", "calm if not (", "calm;", "no 1 ; "};
+        for (String line : law) {
+            Check.wrongLaw(new CribLine(), "yes 1;" + line, 6 + line.length());
+        }
+        String[] above = {"ripe 100", "step 21", "round 100", "round 1", "round 0", "person boy age 90", "person boy age 1 of 2",
+            "person boy age 1 wants 101", "person boy age 1 stern 101", "person boy age 1 permits 10", "governs 2", "governs 0 2", "wed 2", "wed 0 2"};
+        for (String line : above) {
+            Check.wrongFamily(new CribLine(), people + line, people.length() + line.lastIndexOf(' ') + 1);
+        }
+        String[] right = {"ripe 99", "ripe 0", "step 20", "step 0", "round 99", "round 3", "day 999", "day 0", "person boy age 89", "person boy age 1 of 0",
+            "person boy age 1 wants 100", "person boy age 1 wants 0", "person boy age 1 stern 100", "person boy age 1 stern 0", "person boy age 1 permits 0",
+            "governs 0 1", "governs 1 0", "wed 0 1", "wed 1 0"};
+        for (String line : right) {
+            Check.due(line, Check.family(new CribLine(), people + line), 1);
+        }
+        Check.wrongFamily(new CribLine(), "zstep 1", 0);
+        Check.wrongFamily(new CribLine(), "stepz 1", 0);
+        Check.wrongFamily(new CribLine(), "astep 1", 0);
+        Check.wrongFamily(new CribLine(), "step` 1", 4);
+        Check.wrongFamily(new CribLine(), "step{ 1", 4);
+        Check.wrongFamily(new CribLine(), "step /1", 5);
+        Check.wrongFamily(new CribLine(), "step 1:", 6);
+        Check.due("no 0", Check.law(new CribLine(), "no 0;yes 60"), 2);
+        Check.due("999", Check.law(new CribLine(), "no 0 if 999 < 000"), 1);
+    }
+
     private static void weighs() { // Promise 9
-        String people = "step 2;day 7;person girl age 30;person boy age 4 of 0;person boy age 30;wed 0 2";
+        String people = "step 2;day 7;person girl age 30;person boy age 4 of 0;person boy age 5;wed 0 2";
         CribLine x = Check.of(people);
         Check.due("no law", x.weighs(0, 1, true), 2);
         Check.due("no LINE of a no", weight(x, "no 5", 0, 1, false), 7);
@@ -187,6 +222,13 @@ public final class TextTest {
         Check.due("kin is its PARENT", weight(x, "no 1 if kin", 0, 1, false), 3);
         Check.due("kin is not its child", weight(x, "no 1 if kin", 1, 0, false), 2);
         Check.due("wed", weight(x, "no 1 if wed", 1, 0, false), 3);
+        Check.due("wed and", weight(x, "no 1 if wed and 1 < 2", 1, 0, false), 3);
+        Check.due("not wed", weight(x, "no 1 if not wed", 1, 0, false), 2);
+        Check.due("not kin", weight(x, "no 1 if not kin", 0, 1, false), 2);
+        Check.due("kin and", weight(x, "no 1 if kin and crib and 1 < 2", 0, 1, false), 3);
+        Check.due("not crib", weight(x, "no 1 if not crib", 0, 1, false), 2);
+        Check.due("as much is not less", weight(x, "no 1 if 2 < 2 or 2 > 2", 0, 1, false), 2);
+        Check.due("of RIPE's AGE", weight(x, "no 1 if crib", 0, 2, false), 2);
         Check.due("wed is of that one", weight(x, "no 1 if wed", 0, 1, false), 2);
         Check.due("crib", weight(x, "no 1 if crib", 0, 1, false), 3);
         Check.due("crib is of that one", weight(x, "no 1 if crib", 1, 0, false), 2);
@@ -246,6 +288,7 @@ public final class TextTest {
         familyRight();
         familyWrong();
         lawWrong();
+        cut();
         weighs();
         gaps();
         Check.close("TextTest");

@@ -96,6 +96,10 @@ public final class WordsTest {
         Check.law(x, "no 7 if who > 1 and age > 70 and age < 73");
         Check.due("asked at 71", asked(x, 0, 50, 47), 71);
         Check.due("two yes are never parted", asked(x, 0, 50, 53), 0);
+        CribLine y = Check.of("step 3;person girl age 1;person girl age 2;person boy age 50;governs 0 2;governs 1 2", "no 7 if who > 0 and age > 70 and age < 73");
+        Check.due("SAYINGS of 0, too", said(y, 2, 50, 47), 0b0101);
+        Check.due("asked at 71", asked(y, 2, 50, 47), 71);
+        Check.due("the two yes stay together wherever it is asked", asked(y, 2), 0);
         Check.due("fault is of texts", x.fault(), -1);
         Check.refused("an odd byte", NONE_SUCH, () -> said(x, 0, 50));
         Check.refused("no AGE", NONE_SUCH, () -> said(x, 0, 90, 2));
