@@ -134,6 +134,40 @@ public final class ActTest {
         Check.refused("LENT is 9", CANNOT, () -> x.lend(0, 1));
     }
 
+    private static void lastPermit() { // Promises 15, 16
+        CribLine x = Check.of("person girl age 14 permits 1;person boy age 0");
+        Check.due("the last one is lent", x.lend(0, 1), 0);
+        Check.refused("it has none", CANNOT, () -> x.lend(0, 1));
+        Check.due("the last one is used", x.use(1), 1);
+        Check.refused("there is none", CANNOT, () -> x.use(1));
+        Check.due("LENT stays", x.lent(0, 1), 1);
+    }
+
+    private static void rows() { // Promises 57, 58, SHARE: the ring of rows
+        CribLine x = Check.of("person girl age 0;person boy age 0;governs 0 1;governs 1 0");
+        x.say(0, 1, false);
+        Check.due("SHARE of the only no", x.person(0, 10), 100);
+        Check.due("led by the latest alone", x.led(1, true), 0);
+        x.say(1, 0, true);
+        Check.due("a yes takes no SHARE", x.person(0, 10), 100);
+        for (int i = 2; i <= 130; i++) {
+            x.say(0, 1, true);
+            Check.due("rows", x.count(11), Math.min(60, i + 1));
+            row(x, 0, 0, 0, 1, 1, (i - 2) % 90);
+            if (i > 60) {
+                row(x, 59, 0, 0, 1, i == 60 ? 0 : 1, (i - 61 + 90) % 90);
+            }
+        }
+        Check.due("no row of no any more", x.person(0, 10), 0);
+        Check.due("TURNS of all: round by a no, twice back by yes", x.count(8), -1);
+        x.govern(1, 0, true);
+        for (int i = 0; i < 3; i++) {
+            x.say(1, 0, false);
+        }
+        Check.due("AGE 1 by three no", x.person(0, 0), 88);
+        Check.due("TURNS of all, of 0, too", x.count(8), 0);
+    }
+
     private static void governing() { // Promises 17, 18
         CribLine x = Check.of("person girl age 14;person boy age 0;governs 0 1");
         Check.due("as it was", x.govern(0, 1, true), false);
@@ -241,6 +275,8 @@ public final class ActTest {
         births();
         weddings();
         permits();
+        lastPermit();
+        rows();
         governing();
         undone();
         images();

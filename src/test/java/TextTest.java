@@ -128,6 +128,8 @@ public final class TextTest {
         Check.due("no SPOUSE stays", x.count(10), 0);
         Check.due("texts", x.count(1), 1);
         Check.due("round above all", Check.family(x, "round 51"), 2);
+        Check.wrongFamily(Check.of("person boy age 80;person boy age 2"), "round 80", 6);
+        Check.wrongFamily(Check.of("person boy age 2;person boy age 80"), "round 80", 6);
         CribLine y = new CribLine();
         Check.wrongFamily(y, "round 001", 6);
         Check.due("round 2", Check.family(y, "round 2;person boy age 1"), 1);

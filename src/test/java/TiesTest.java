@@ -103,6 +103,13 @@ public final class TiesTest {
         Check.due("SPREAD of one", Check.of("person boy age 40").spread(), 0);
         Check.due("SPREAD of one AGE", Check.of("person boy age 40;person boy age 40").spread(), 0);
         Check.due("SPREAD of the half", Check.of("person boy age 0;person boy age 45").spread(), 45);
+        CribLine one = Check.of("person girl age 4");
+        Check.due("MEAN of one", one.mean(), 4);
+        Check.due("CRIB of one", one.crib(), 1);
+        Check.due("OLDEST of one", one.oldest(), 0);
+        Check.due("YOUNGEST of one", one.youngest(), 0);
+        Check.due("AGES of one", one.count(7), 4);
+        Check.due("the least way begins at 0", Check.of("person boy age 10;person boy age 12").spread(), 2);
         CribLine y = new CribLine();
         Check.due("TWINS of nobody", y.twins(), 0);
         Check.due("MEAN of nobody", y.mean(), 0);

@@ -34,6 +34,10 @@ public final class WordsTest {
         Check.due("who is not governed", x.can(1, 20), 1);
         Check.due("cannot be", x.fewest(1, 2), -1);
         Check.due("nor first", x.first(1, 2), -1);
+        Check.due("AGE 0", x.fewest(0, 0), 5);
+        Check.due("first to AGE 0", x.first(0, 0), 4);
+        Check.due("AGE 89", x.fewest(0, 89), 9);
+        Check.due("first to AGE 89", x.first(0, 89), 3);
         Check.refused("AGE 90", NONE_SUCH, () -> x.fewest(0, 90));
         Check.refused("AGE -1", NONE_SUCH, () -> x.fewest(0, -1));
         Check.refused("AGE 90", NONE_SUCH, () -> x.first(0, 90));
