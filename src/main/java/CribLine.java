@@ -1227,7 +1227,6 @@ public final class CribLine {
             this.draft = draft;
         }
 
-        @Override
         boolean readLine() {
             switch (next()) {
                 case PERSON: return readPerson();
@@ -1339,7 +1338,6 @@ public final class CribLine {
             this.draft = draft;
         }
 
-        @Override
         boolean readLine() {
             int kind = next();
             if (kind != NO && kind != YES && kind != CALM) {
