@@ -864,13 +864,14 @@ public final class CribLine {
             return place >= 0 && place < cells.length ? cells[place] : NONE;
         }
 
+        // The rows of no of one are those told to it: it is the one who is refused.
         int shareOf(int person) {
             int all = 0;
             int own = 0;
             for (int i = 0; i < size; i++) {
                 if (cell(i, YES) == 0) {
                     all++;
-                    own += cell(i, WHO) == person ? 1 : 0;
+                    own += cell(i, WHOM) == person ? 1 : 0;
                 }
             }
             return all > 0 ? 100 * own / all : 0;

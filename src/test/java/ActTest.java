@@ -31,9 +31,9 @@ public final class ActTest {
         Check.due("a no", x.say(0, 1, false), 4);
         Check.due("a no", x.say(1, 2, false), 88);
         Check.due("rows", x.count(11), 6);
-        Check.due("SHARE of who said two", x.person(0, 10), 66);
-        Check.due("SHARE of who said one", x.person(1, 10), 33);
-        Check.due("SHARE of who said none", x.person(2, 10), 0);
+        Check.due("SHARE of who said two and was told none", x.person(0, 10), 0);
+        Check.due("SHARE of who was told two", x.person(1, 10), 66);
+        Check.due("SHARE of who was told one", x.person(2, 10), 33);
         Check.due("led to 1", x.led(1, false), 4);
         Check.due("led to 0", x.led(0, false), 0);
         Check.due("the DAY", x.led(1, true), 3);
@@ -146,10 +146,12 @@ public final class ActTest {
     private static void rows() { // Promises 57, 58, SHARE: the ring of rows
         CribLine x = Check.of("person girl age 0;person boy age 0;governs 0 1;governs 1 0");
         x.say(0, 1, false);
-        Check.due("SHARE of the only no", x.person(0, 10), 100);
+        Check.due("SHARE of the only no", x.person(1, 10), 100);
+        Check.due("no SHARE of who said it", x.person(0, 10), 0);
         Check.due("led by the latest alone", x.led(1, true), 0);
         x.say(1, 0, true);
-        Check.due("a yes takes no SHARE", x.person(0, 10), 100);
+        Check.due("a yes takes no SHARE", x.person(1, 10), 100);
+        Check.due("nor gives any", x.person(0, 10), 0);
         for (int i = 2; i <= 130; i++) {
             x.say(0, 1, true);
             Check.due("rows", x.count(11), Math.min(60, i + 1));
@@ -158,7 +160,7 @@ public final class ActTest {
                 row(x, 59, 0, 0, 1, i == 60 ? 0 : 1, (i - 61 + 90) % 90);
             }
         }
-        Check.due("no row of no any more", x.person(0, 10), 0);
+        Check.due("no row of no any more", x.person(1, 10), 0);
         Check.due("TURNS of all: round by a no, twice back by yes", x.count(8), -1);
         x.govern(1, 0, true);
         for (int i = 0; i < 3; i++) {

@@ -432,7 +432,7 @@ final class Model {
             case 9 -> bits(i -> s.one(i).governors.contains(p));
             case 10 -> {
                 long all = s.log.stream().filter(r -> r[3] == 0).count();
-                long own = s.log.stream().filter(r -> r[3] == 0 && r[1] == p).count();
+                long own = s.log.stream().filter(r -> r[3] == 0 && r[2] == p).count();
                 yield all == 0 ? 0 : (int) (own * 100 / all);
             }
             default -> throw new NoSuchElementException();
