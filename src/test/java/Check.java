@@ -4,15 +4,21 @@ import java.nio.charset.StandardCharsets;
 final class Check {
     private static int asked = 0;
     private static int wrong = 0;
+    private static String test = "";
 
     private Check() {
+    }
+
+    /** The name of the test that is run, told ahead of whatever it finds wrong. */
+    static void test(String name) {
+        test = name + ": ";
     }
 
     static void due(String what, long got, long want) {
         asked++;
         if (got != want) {
             wrong++;
-            System.out.println(what + " answered " + got + ", due is " + want);
+            System.out.println(test + what + " answered " + got + ", due is " + want);
         }
     }
 
@@ -30,7 +36,7 @@ final class Check {
         }
         if (!got.equals(kind.getSimpleName())) {
             wrong++;
-            System.out.println(what + " threw " + got + ", due is " + kind.getSimpleName());
+            System.out.println(test + what + " threw " + got + ", due is " + kind.getSimpleName());
         }
     }
 
