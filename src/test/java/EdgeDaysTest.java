@@ -348,6 +348,15 @@ final class EdgeDaysTest {
         Check.due("4 of 3", x.again(true), 4);
     }
 
+    /** "all AGES": of 0 alone, of 7 alone. */
+    static void againOfTheFirstAndTheLast() {
+        CribLine x = Check.of("round 12;" + "person boy age 8;".repeat(7) + "person boy age 8;governs 7 0");
+        Check.due("0 alone is told", x.again(false), 12);
+        x.govern(7, 0, false);
+        x.govern(0, 7, true);
+        Check.due("7 alone is told", x.again(true), 12);
+    }
+
     // ---- Promise 28: OVER
 
     /** "TURNS of it are more than now": to AGE 0 is none yet. */

@@ -421,6 +421,19 @@ final class EdgeFamilyTest {
         Edge.wrongFamily("person boy age 1^o");
     }
 
+    /** "as long as a to z go on": a and z are of them. */
+    static void wordsOfAToZ() {
+        Edge.wrongFamily("^stepz 1");
+        Edge.wrongFamily("^stepa 1");
+        Edge.wrongFamily("^zstep 1");
+        Edge.wrongFamily("^astep 1");
+        Edge.wrongFamily("person ^boyz age 1");
+        Edge.wrongFamily("person boy age 1^z");
+        Edge.wrongFamily("person boy age 1^a");
+        Edge.wrongLaw("^calmz");
+        Edge.wrongLaw("calm if ^wedz");
+    }
+
     /** Signs just outside a to z and 0 to 9, and great letters, end a word and are wrong themselves. */
     static void signsRoundTheWords() {
         Edge.wrongFamily("^Step 1");

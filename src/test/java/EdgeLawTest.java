@@ -279,6 +279,30 @@ final class EdgeLawTest {
         Check.due("RIPE 0", holds(x, 1, 0, "crib"), false);
     }
 
+    /** wed, kin and crib count like any other ATOM behind not, and beside and, or: by 1 and by 0. */
+    static void wordsAsAtoms() {
+        CribLine x = Check.of("person girl age 40;person boy age 3 of 0;person girl age 41;person boy age 30;wed 1 2");
+        for (String atom : new String[] {"wed", "kin", "crib"}) {
+            // 0 to 1 all three hold, 1 to 3 none of them
+            Check.due(atom, holds(x, 0, 1, atom), true);
+            Check.due("not " + atom, holds(x, 0, 1, "not " + atom), false);
+            Check.due("not not " + atom, holds(x, 0, 1, "not not " + atom), true);
+            Check.due(atom + " and more", holds(x, 0, 1, atom + " and 1<2"), true);
+            Check.due("more and " + atom, holds(x, 0, 1, "1<2 and " + atom), true);
+            Check.due(atom + " and less", holds(x, 0, 1, atom + " and 2<1"), false);
+            Check.due(atom + " or less", holds(x, 0, 1, "(" + atom + " or 2<1) and 1<2"), true);
+            Check.due("no " + atom, holds(x, 1, 3, atom), false);
+            Check.due("no, not " + atom, holds(x, 1, 3, "not " + atom), true);
+            Check.due("no, not not " + atom, holds(x, 1, 3, "not not " + atom), false);
+            Check.due("no " + atom + " and more", holds(x, 1, 3, atom + " and 1<2"), false);
+            Check.due("no " + atom + " or more", holds(x, 1, 3, atom + " or 1<2"), true);
+            Check.due("no " + atom + " or less", holds(x, 1, 3, atom + " or 2<1"), false);
+        }
+        Check.due("all three", holds(x, 0, 1, "wed and kin and crib"), true);
+        Check.due("not all three", holds(x, 0, 1, "not (wed and kin and crib)"), false);
+        Check.due("none of three", holds(x, 1, 3, "wed or kin or crib"), false);
+    }
+
     /** "C: ALL { or ALL }; ALL: ATOM { and ATOM }": and joins ahead of or. */
     static void andAheadOfOr() {
         String t = "1<2", f = "2<1";

@@ -290,6 +290,33 @@ final class EdgeMemoryTest {
         Edge.alike("the same DAYS again", Edge.state(x), state);
     }
 
+    /** "all is as ahead of it": the row that the 61st SAYING took away is there again. */
+    static void undoBringsTheOldestRowBack() {
+        CribLine x = two();
+        for (int i = 0; i < 60; i++) x.say(i % 2, 1 - i % 2, i % 3 == 0);
+        Check.law(x, "no 3"); // no ACT is remembered behind a text
+        String state = Edge.state(x);
+        int oldest = x.log(59, 4);
+        x.say(0, 1, true);
+        Check.due("another one is the oldest", x.log(59, 1), 1);
+        x.undo();
+        Check.due("who said the oldest", x.log(59, 1), 0);
+        Check.due("AGE of the oldest", x.log(59, 4), oldest);
+        Edge.alike("behind one undone", Edge.state(x), state);
+    }
+
+    /** The same of DAYS in which all 60 rows are taken away. */
+    static void undoBringsAllRowsBack() {
+        CribLine x = two();
+        for (int i = 0; i < 60; i++) x.say(i % 2, 1 - i % 2, i % 3 == 0);
+        Check.law(x, "no 3"); // no ACT is remembered behind a text
+        String state = Edge.state(x);
+        x.days(100);
+        Check.due("all are new", x.log(59, 0) > 0, true);
+        x.undo();
+        Edge.alike("behind DAYS undone", Edge.state(x), state);
+    }
+
     // ---- Promises 61, 62
 
     /** "false, and nothing happens, if none was kept". */
@@ -389,6 +416,30 @@ final class EdgeMemoryTest {
         Check.due("fault", x.fault(), 5);
         Check.due("the TAPE", x.family(), 2);
         Check.due("STEP", x.count(6), 3);
+    }
+
+    /** "of all": rows of THE LOG that were undone and told otherwise are as they were kept. */
+    static void imageOfTheLog() {
+        CribLine x = two();
+        x.say(0, 1, true);
+        x.say(0, 1, true);
+        x.image();
+        x.undo();
+        x.undo();
+        x.say(1, 0, false);
+        x.say(1, 0, false);
+        x.back();
+        for (int ago = 0; ago < 2; ago++) {
+            Check.due("who said it", x.log(ago, 1), 0);
+            Check.due("a yes", x.log(ago, 3), 1);
+        }
+        Check.due("none behind", x.log(2, 1), -1);
+        String state = Edge.state(x);
+        for (int i = 0; i < 70; i++) x.say(1, 0, false);
+        Check.due("all are new", x.log(59, 3), 0);
+        x.back();
+        Check.due("rows", x.count(11), 2);
+        Edge.alike("behind 70 rows more", Edge.state(x), state);
     }
 
     /** A way back, then ACTS: they are remembered anew. */

@@ -65,6 +65,12 @@ final class EdgePairsTest {
                 Check.of("person boy age 10;person boy age 12;person girl age 20;person girl age 16"), 2, 14, 2, 3, 0, 1);
     }
 
+    /** "(boy by boy ..": not girl by girl, which would put 1 to 2 and leave 3 alone. */
+    static void boyByBoyNotGirlByGirl() {
+        match("4 together either way", Check.of("person boy age 9;person boy age 11;person girl age 14;person girl age 6;person girl age 10"),
+                2, 4, 3, 4, -1, 0, 1);
+    }
+
     /** ".., none behind all girls)": a boy with one goes ahead of him without. */
     static void noneBehindAllGirls() {
         match("the first boy has her", Check.of("person boy age 8;person boy age 12;person girl age 10"), 1, 2, 2, -1, 0);
@@ -169,6 +175,12 @@ final class EdgePairsTest {
         Check.due("PARENT and child", Check.of("person boy age 0;person girl age 0 of 0").runs(), 0);
         Check.due("child and PARENT", Check.of("person girl age 0;person boy age 0 of 0").runs(), 0);
         Check.due("each other's SPOUSE", Check.of("person girl age 0;person boy age 40;wed 0 1").runs(), 0);
+    }
+
+    /** A girl that is 0, a boy that is 7, and the other way round. */
+    static void runsOfTheFirstAndTheLast() {
+        Check.due("girl 0, boy 7", Check.of("person girl age 1" + ";person girl age 9 of 0".repeat(6) + ";person boy age 2;wed 1 7").runs(), 1);
+        Check.due("boy 0, girl 7", Check.of("person boy age 1" + ";person boy age 9 of 0".repeat(6) + ";person girl age 2;wed 1 7").runs(), 1);
     }
 
     /** "how many": pairs of all, each once. */

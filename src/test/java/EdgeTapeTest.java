@@ -336,6 +336,19 @@ final class EdgeTapeTest {
         Edge.wrongLaw(x, "no 7 if " + sum + ">191   ^)");
     }
 
+    /** A word may end with the last of 400 bytes. */
+    static void wordAtTheLastByte() {
+        CribLine x = Check.of("person boy age 1;person girl age 2;wed 0 1;step 3");
+        Check.due("calm", Check.law(x, " ".repeat(396) + "calm"), 1);
+        Check.due("it holds", x.weighs(0, 1, false), 0);
+        Check.law(x, "no 7 if" + " ".repeat(390) + "wed");
+        Check.due("wed", x.weighs(0, 1, false), 10);
+        Check.law(x, "no 7 if 90 <" + " ".repeat(385) + "age");
+        Check.due("age", x.weighs(0, 1, false), 3);
+        Edge.wrongFamily(x, "person" + " ".repeat(391) + "boy^");
+        Edge.wrongFamily(x, "person" + " ".repeat(391) + "^cat");
+    }
+
     // ---- Promise 6
 
     /** "NONE .. ahead of any". */

@@ -179,6 +179,21 @@ final class EdgeWordsTest {
         Check.due("none", x.kind(7), -1);
     }
 
+    /** Who governs it may be 0, and may be 7: the first and the last are looked at. */
+    static void harshOfTheFirstAndTheLast() {
+        CribLine x = Check.of("person boy age 9;" + "person girl age 1;".repeat(6) + "person boy age 40;governs 0 3;governs 7 3");
+        Check.due("of like no the least", x.harsh(3), 0);
+        Check.due("of like yes the least", x.kind(3), 0);
+        Check.law(x, "no 1 if who > 6;yes 1 if who < 1");
+        Check.due("7", x.harsh(3), 7);
+        Check.due("0", x.kind(3), 0);
+        x.govern(7, 3, false);
+        Check.due("0 alone", x.harsh(3), 0);
+        x.govern(7, 3, true);
+        x.govern(0, 3, false);
+        Check.due("7 alone", x.kind(3), 7);
+    }
+
     /** A no that WEIGHS 0 is one, too; what is left by ROUND counts, not the sum. */
     static void harshOfNoWeight() {
         CribLine x = Check.of("person boy age 9;person girl age 1;person girl age 2;governs 1 0;governs 2 0", "calm");
@@ -320,6 +335,15 @@ final class EdgeWordsTest {
         CribLine y = one(1, 2, 1);
         Check.due("a ring of 2: no and yes are alike", ask(y, 0), 0);
         Check.due("both fit", said(y, 0, 0, 1), 0b1100);
+    }
+
+    /** ASK among SAYINGS of 0 and of 7: their no and their yes are parted, too. */
+    static void askOfTheFirstAndTheLast() {
+        CribLine x = Check.of("person girl age 9;" + "person boy age 1;".repeat(6) + "person girl age 2;governs 0 3;governs 7 3",
+                "no 4 if who < 1 and age > 30;yes 4 if who > 6 and age > 40");
+        Check.due("of a no the one by 0 is parted at 31", ask(x, 3, 20, 19), 31);
+        Check.due("of a yes the one by 7 is parted at 41", ask(x, 3, 20, 21), 41);
+        Check.due("all four fit", said(x, 3), 0b1100000000000011);
     }
 
     /** ASK by "the greatest part .. the least": four parts of one go ahead of parts of two. */
